@@ -20,7 +20,8 @@ public final class LanguageTest {
             String pattern = Character.isLetter(word.charAt(0)) || word.startsWith("\\") ? "\\b" + word + "\\b" : word;
             due.equal("a look for " + word, false, Pattern.compile(pattern).matcher(code).find());
         }
-        onlyThese(code, "\\bthrow new (\\w+)", "IndexOutOfBoundsException|IllegalArgumentException|IllegalStateException");
+        onlyThese(code, "\\bthrow new (\\w+)",
+            "IndexOutOfBoundsException|IllegalArgumentException|IllegalStateException");
         onlyThese(code, "\\bMath\\.(\\w+)", "min|max");
         due.equal("throws that make no exception", false, Pattern.compile("\\bthrow (?!new )").matcher(code).find());
         due.equal("signs beyond 127", true, code.chars().allMatch(sign -> sign < 128));
