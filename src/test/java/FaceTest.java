@@ -1,7 +1,10 @@
+import java.io.IOException;
 import java.lang.reflect.Constructor;
 import java.lang.reflect.Field;
 import java.lang.reflect.Method;
 import java.lang.reflect.Modifier;
+import java.nio.file.Files;
+import java.nio.file.Path;
 import java.util.Arrays;
 import java.util.Set;
 import java.util.TreeSet;
@@ -34,12 +37,13 @@ public final class FaceTest {
         "int pass(int) throws IllegalArgumentException",
     };
 
-    public static void main(String[] args) {
+    public static void main(String[] args) throws IOException {
         Class<?> face = ParoleCards.class;
         due.equal("the class", "public final", Modifier.toString(face.getModifiers()));
         due.equal("its package", "", face.getPackageName());
         due.equal("constructors", "[public ParoleCards()]", Arrays.toString(face.getDeclaredConstructors()));
         publicMethods(face);
+        asTheDocumentHasIt();
         innerMembers(face);
         for (Class<?> inner : face.getDeclaredClasses()) {
             innerClass(inner);
@@ -70,6 +74,23 @@ public final class FaceTest {
             }
         }
         due.equal("the public methods", want, got);
+    }
+
+    /** The names of parameters are not in the compiled class, so the words of the source are compared. */
+    private static void asTheDocumentHasIt() throws IOException {
+        String document = Files.readString(Path.of("../shared/DOC.md"));
+        int first = document.indexOf("```java\n") + "```java\n".length();
+        String[] lines = document.substring(first, document.indexOf("```", first)).strip().split("\n");
+        String source = inOneLine(Files.readString(Path.of("src/main/java/ParoleCards.java")));
+        for (String line : Arrays.copyOf(lines, lines.length - 1)) {
+            String words = inOneLine(line).replaceFirst(";$", " {");
+            due.equal(words + " stands in the source", true, source.contains(words));
+        }
+        due.equal("lines of the face", FACE.length + 3, lines.length);
+    }
+
+    private static String inOneLine(String text) {
+        return text.strip().replaceAll("\\s+", " ");
     }
 
     private static void innerMembers(Class<?> face) {
